@@ -31,7 +31,7 @@ public final class HoursBank {
         draft = new Rules();
         sheets = new Sheet[MOST_WORKERS];
         for (int i = 0; i < MOST_WORKERS; i++) {
-            sheets[i] = new Sheet(rules);
+            sheets[i] = new Sheet(rules, i);
         }
         history = new History();
         today = 0;
@@ -563,7 +563,7 @@ public final class HoursBank {
         private final int[] counts = new int[SORTS];
 
         Rules() {
-            banks[0][2] = 1;
+            clear();
         }
 
         void clear() {
@@ -743,9 +743,8 @@ public final class HoursBank {
         private int leaveInAll;
         private Rules rules;
 
-        Sheet(Rules rules) {
-            this.rules = rules;
-            Arrays.fill(changed, NONE);
+        Sheet(Rules rules, int number) {
+            begin(rules, number);
         }
 
         void begin(Rules newRules, int number) {

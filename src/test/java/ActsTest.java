@@ -185,9 +185,16 @@ public final class ActsTest {
         bank.book(1, 0, true);
         Check.close(bank, 1);
         Check.is("leave(0)", bank.leave(0), 28);
+        Check.is("balance then", bank.worker(0, 0), 0);
         Check.is("leave(1)", bank.leave(1), -90);
         Check.throwsNoSuch("gone", () -> bank.leave(0));
         Check.is("settled", bank.worker(0, 7), 28);
+        bank.undo();
+        bank.undo();
+        Check.is("nothing settled", bank.worker(0, 7), 0);
+        Check.is("balance again", bank.worker(0, 0), 4);
+        bank.leave(0);
+        bank.leave(1);
         Check.is("none are there", bank.now(2), 0);
         Check.is("days go on", bank.endDay(), 0);
         HoursBank late = Check.bankOf(TEXT);
@@ -282,6 +289,13 @@ public final class ActsTest {
         bank.undo();
         bank.undo();
         Check.is("today", bank.now(0), 0);
+        bank.plan(1, 0, 96);
+        bank.work(1, 0);
+        bank.endDay();
+        Check.is("docked", bank.worker(1, 3), 76);
+        bank.undo();
+        bank.undo();
+        bank.undo();
         for (int what : new int[] {0, 2, 3, 4, 6, 8, 9, 10}) {
             Check.is("worker(0, " + what + ")", bank.worker(0, what), 0);
             Check.is("worker(1, " + what + ")", bank.worker(1, what), 0);

@@ -13,6 +13,7 @@ public final class TextTest {
         edgesOfNumbers();
         oneTooMany();
         endOfText();
+        cutTapes();
         longTexts();
         faultLeavesAll();
         newTextBeginsAnew();
@@ -107,6 +108,11 @@ public final class TextTest {
         reads(BANK + "`", -14, 1);
         reads(BANK + "/", -14, 1);
         reads(BANK + ":", -14, 1);
+        // All small letters make words, a and z too.
+        reads("bank 1za", -6, 1);
+        reads("bank 1z 1a", -6, 1);
+        reads("azank", -1, 1);
+        reads(BANK + "aorker 1 1;", -14, 1);
     }
 
     private static void tokensThatCannotCome() {
@@ -136,8 +142,10 @@ public final class TextTest {
         reads(BANK + "season 364 0 1 1 1 1 1 1 1;", -21, 2);
         reads(BANK + "season 0 364 1 1 1 1 1 1 1;", -23, 2);
         reads(BANK + "season 5 4 1 1 1 1 1 1 1;", -23, 2);
-        reads(BANK + "season 5 5 97 1 1 1 1 1 1;", -25, 2);
-        reads(BANK + "season 5 5 1 1 1 1 1 1 97;", -37, 2);
+        for (int i = 0; i < 7; i++) {
+            String quarters = " 1".repeat(i) + " 97" + " 1".repeat(6 - i);
+            reads(BANK + "season 5 5" + quarters + ";", -25 - 2 * i, 2);
+        }
         reads(BANK + "notice 0 1;", -21, 2);
         reads(BANK + "notice 61 1;", -21, 2);
         reads(BANK + "notice 1 301;", -23, 2);
@@ -173,6 +181,23 @@ public final class TextTest {
         reads("bank 1 1 1 1", -13, 1);
         reads("bank 1 1 1 1 \n", -15, 1);
         reads(BANK + "worker 1 ", -23, 1);
+    }
+
+    /** What stood behind the tape's end before it was cut is not read. */
+    private static void cutTapes() {
+        cut("bank 1 1 1 1;", 3, -1);
+        cut("bank 1 1 1 1;", 4, -5);
+        cut("bank 1 1 1 12345;", 12, -13);
+        cut("bank 1 1 1 1;", 12, -13);
+        cut("bank 1 1 1 1;worker 1 1;", 13, 1);
+        cut("bank 1 1 1 1;worker 1 1;", 14, -14);
+    }
+
+    private static void cut(String text, int n, int due) {
+        HoursBank bank = new HoursBank();
+        Check.feed(bank, text);
+        bank.end(n);
+        Check.is("\"" + text + "\" cut to " + n, bank.text(), due);
     }
 
     private static void longTexts() {
