@@ -7,6 +7,7 @@ final class Check {
     static final long THROWN = Long.MIN_VALUE;
 
     private static int wrong = 0;
+    private static String sentence = "";
 
     interface Call {
         int answer();
@@ -15,10 +16,15 @@ final class Check {
     private Check() {
     }
 
+    /** What follows looks at this sentence of the document, which is printed with an answer that is wrong. */
+    static void sentence(String words) {
+        sentence = "'" + words + "': ";
+    }
+
     static void is(String what, long got, long due) {
         if (got != due) {
             wrong++;
-            System.out.println(what + " answered " + told(got) + ", due is " + told(due));
+            System.out.println(sentence + what + " answered " + told(got) + ", due is " + told(due));
         }
     }
 
@@ -69,6 +75,16 @@ final class Check {
             is("text \"" + text + "\"", answer, 0);
         }
         return bank;
+    }
+
+    /** A text on a new object: its answer, its fault, and the tape that is empty then. */
+    static void reads(String text, int due, int fault) {
+        HoursBank bank = new HoursBank();
+        feed(bank, text);
+        String what = "\"" + text.replace("\n", "\\n") + "\"";
+        is("text " + what, bank.text(), due);
+        is("fault of " + what, bank.fault(), fault);
+        is("tape behind " + what, bank.now(9), 0);
     }
 
     static void close(HoursBank bank, int days) {

@@ -279,10 +279,6 @@ public final class TextTest {
     }
 
     private static void reads(String text, int due, int fault) {
-        HoursBank bank = new HoursBank();
-        Check.feed(bank, text);
-        Check.is("text \"" + text.replace("\n", "\\n") + "\"", bank.text(), due);
-        Check.is("fault of \"" + text.replace("\n", "\\n") + "\"", bank.fault(), fault);
-        Check.is("tape behind \"" + text.replace("\n", "\\n") + "\"", bank.now(9), 0);
+        Check.reads(text, due, fault);
     }
 }
