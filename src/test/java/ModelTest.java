@@ -136,7 +136,7 @@ public final class ModelTest {
     private String goodText() {
         StringBuilder text = new StringBuilder();
         int window = 1 + random.nextInt(random.nextBoolean() ? 60 : 8);
-        line(text, "bank", random.nextInt(120), random.nextInt(120), window, random.nextInt(40 * window + 20));
+        line(text, "bank", often(120, 9999), often(120, 9999), window, often(40 * window + 20, 9999));
         for (int i = random.nextInt(6); i > 0; i--) {
             int from = random.nextInt(364);
             int to = from + random.nextInt(364 - from);
@@ -144,12 +144,18 @@ public final class ModelTest {
             line(text, "season", from, to, q, q + 5, random.nextInt(97), q, q + 2, 0, random.nextInt(10));
         }
         for (int i = random.nextInt(4); i > 0; i--) {
-            line(text, "notice", 1 + random.nextInt(60), random.nextInt(301));
+            line(text, "notice", 1 + random.nextInt(60), often(301, 300));
         }
         for (int i = random.nextInt(8) == 0 ? 0 : 1 + random.nextInt(4); i > 0; i--) {
-            line(text, "worker", 1 + random.nextInt(random.nextBoolean() ? 999 : 9), random.nextInt(1000));
+            line(text, "worker", 1 + often(random.nextBoolean() ? 999 : 9, 998), often(1000, 9999));
         }
         return text.toString();
+    }
+
+    /** Mostly a number below an end, now and then the greatest or the least that may be told. */
+    private int often(int end, int most) {
+        int dice = random.nextInt(16);
+        return dice == 0 ? most : dice == 1 ? 0 : random.nextInt(end);
     }
 
     private void line(StringBuilder text, String word, int... numbers) {
